@@ -10,6 +10,7 @@ public final class PromisesTest {
         newObject();
         space();
         spaceAtItsEdges();
+        spaceUpToItsLastCell();
         spaceClearsAll();
         limit();
         make();
@@ -99,6 +100,24 @@ public final class PromisesTest {
         Check.due("2: most again", 16 + 64, () -> x.space(1024, 512, 8192));
         Check.due("2: one more than least", 10240, () -> x.space(17, 1, 65));
         Check.due("2: and back", 17 + 2 + 65, () -> x.space(16, 0, 64));
+    }
+
+    /** One cell more in all than at first, and every cell of OLD taken. */
+    private static void spaceUpToItsLastCell() {
+        NurseryRow x = new NurseryRow();
+        x.limit(0);
+        x.space(401, 0, 2032);
+        for (int i = 0; i < 5; i++) {
+            x.root(i, x.make(198, 200));
+            x.collect();
+        }
+        x.root(5, x.make(0, 24));
+        x.put(1, 23, 77);
+        Check.due("2: the last one that fits", 1, () -> x.collect());
+        Check.due("2: OLD is full", 2032, () -> x.count(5));
+        Check.due("2: its address", 2433 - 26, () -> x.rooted(5));
+        Check.due("2: the last cell", 77, () -> x.word(2433 - 26, 23));
+        Check.due("2: all cells", 2433, () -> x.space(16, 0, 64));
     }
 
     private static void spaceClearsAll() {
