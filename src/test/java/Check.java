@@ -43,6 +43,30 @@ final class Check {
         same(what, outcome(call), IllegalStateException.class.getName());
     }
 
+    /** A call on an object that is handed to it. */
+    interface CallOn {
+        int answer(NurseryRow x);
+    }
+
+    private static void kept(String what, NurseryRow x, Class<?> want, CallOn call) {
+        String before = state(x);
+        same(what, outcome(() -> call.answer(x)), want.getName());
+        same(what + ": the state behind it", state(x), before);
+    }
+
+    /** Throws, and leaves all as it was. A new object each time: one answers for 512 calls alone. */
+    static void keptWhenMissing(String what, CallOn call) {
+        kept(what, Sample.small(), NoSuchElementException.class, call);
+    }
+
+    static void keptWhenRefused(String what, CallOn call) {
+        kept(what, Sample.small(), IllegalArgumentException.class, call);
+    }
+
+    static void keptWhenNotNow(String what, NurseryRow x) {
+        kept(what, x, IllegalStateException.class, y -> y.collect());
+    }
+
     static boolean anyWrong() {
         return wrong > 0;
     }
@@ -54,9 +78,16 @@ final class Check {
         }
     }
 
-    /** Everything that the calls tell of an object's state, told without changing it. */
+    private static int limitOf(NurseryRow x) {
+        int n = x.limit(0);
+        x.limit(n);
+        return n;
+    }
+
+    /** Everything that the calls tell of an object's state but its sizes, told without changing it. */
     static String state(NurseryRow x) {
         StringBuilder text = new StringBuilder();
+        text.append("limit ").append(limitOf(x)).append(", ");
         for (int what = 0; what <= 9; what++) {
             text.append(x.count(what)).append(' ');
         }
@@ -68,10 +99,12 @@ final class Check {
             for (int what = 0; what <= 3; what++) {
                 text.append(' ').append(x.about(a, what));
             }
-            for (int i = 0; i < x.about(a, 1); i++) {
+            int fields = x.about(a, 1);
+            for (int i = 0; i < fields; i++) {
                 text.append(" f").append(x.get(a, i));
             }
-            for (int i = 0; i < x.about(a, 2); i++) {
+            int words = x.about(a, 2);
+            for (int i = 0; i < words; i++) {
                 text.append(" w").append(x.word(a, i));
             }
         }

@@ -134,7 +134,9 @@ public final class PromisesTest {
         x.collect();
         Check.due("2: row 1 is in use before", 1, () -> x.count(9));
         Check.due("2: with the same sizes", 2432, () -> x.space(256, 64, 2048));
-        Check.same("2: all goes", Check.state(x), Check.state(new NurseryRow()));
+        NurseryRow fresh = new NurseryRow();
+        fresh.limit(1);
+        Check.same("2: all goes but the limit", Check.state(x), Check.state(fresh));
         Check.missing("2: what was there is gone", () -> x.about(385, 0));
         Check.due("2: the limit stays", 1, () -> x.limit(2));
         Check.due("2: EDEN begins anew", 1, () -> x.make(0, 0));
@@ -175,14 +177,14 @@ public final class PromisesTest {
         Check.due("4: the last cells", 215, () -> x.make(0, 39));
         Check.due("4: full", 0, () -> x.make(0, 0));
         Check.due("4: more than EDEN has", 0, () -> x.make(200, 200));
-        String before = Check.state(x);
         Check.refused("4: fields -1", () -> x.make(-1, 0));
         Check.refused("4: fields 201", () -> x.make(201, 0));
         Check.refused("4: words -1", () -> x.make(0, -1));
         Check.refused("4: words 201", () -> x.make(0, 201));
         Check.refused("4: highest", () -> x.make(HIGHEST, HIGHEST));
         Check.refused("4: sum wraps", () -> x.make(HIGHEST, LOWEST));
-        Check.same("4: refused ones", Check.state(x), before);
+        Check.due("4: refused ones make none", 4, () -> x.count(0));
+        Check.due("4: refused ones take no cells", 256, () -> x.count(3));
     }
 
     private static void makeWhereObjectsWere() {
@@ -319,41 +321,26 @@ public final class PromisesTest {
         Check.missing("10: root lowest", () -> x.rooted(LOWEST));
     }
 
-    /** Marks an object by its word 0, so that its copy can be told from others. */
-    private static int marked(NurseryRow x, int fields, int mark) {
-        int a = x.make(fields, 1);
-        x.put(a, 0, mark);
-        return a;
-    }
-
-    private static String marks(NurseryRow x) {
-        StringBuilder text = new StringBuilder();
-        for (int a = x.next(0); a != 0; a = x.next(a)) {
-            text.append(x.about(a, 3)).append(':').append(x.word(a, 0)).append(' ');
-        }
-        return text.toString();
-    }
-
     private static void collectOrder() {
         NurseryRow x = new NurseryRow();
-        int old = marked(x, 2, 1);
+        int old = Sample.marked(x, 2, 1);
         x.root(0, old);
         x.limit(0);
         x.collect();
         x.limit(3);
-        int byOldFirst = marked(x, 0, 2);
-        int byOldSecond = marked(x, 0, 3);
-        int byRoot9 = marked(x, 1, 4);
-        int byCopy = marked(x, 0, 5);
-        int byRoot2 = marked(x, 0, 6);
-        marked(x, 1, 7);
+        int byOldFirst = Sample.marked(x, 0, 2);
+        int byOldSecond = Sample.marked(x, 0, 3);
+        int byRoot9 = Sample.marked(x, 1, 4);
+        int byCopy = Sample.marked(x, 0, 5);
+        int byRoot2 = Sample.marked(x, 0, 6);
+        Sample.marked(x, 1, 7);
         x.set(385, 1, byOldSecond);
         x.set(385, 0, byOldFirst);
         x.root(9, byRoot9);
         x.set(byRoot9, 0, byCopy);
         x.root(2, byRoot2);
         Check.due("11: copies the reached", 5, () -> x.collect());
-        Check.same("11: roots, then OLD, then copies", marks(x), "1:6 1:4 1:2 1:3 1:5 3:1 ");
+        Check.same("11: roots, then OLD, then copies", Sample.marks(x), "1:6 1:4 1:2 1:3 1:5 3:1 ");
         Check.due("11: root 0 stays", 385, () -> x.rooted(0));
         Check.due("11: root 2", 257, () -> x.rooted(2));
         Check.due("11: root 9", 261, () -> x.rooted(9));
@@ -368,13 +355,13 @@ public final class PromisesTest {
     private static void collectOrderOfCopies() {
         NurseryRow x = new NurseryRow();
         x.space(256, 20, 512);
-        int big = marked(x, 1, 1);
+        int big = Sample.marked(x, 1, 1);
         int large = x.make(1, 30);
         x.put(large, 0, 2);
-        int last = marked(x, 1, 3);
-        int ofBig = marked(x, 0, 4);
-        int ofLarge = marked(x, 0, 5);
-        int ofLast = marked(x, 0, 6);
+        int last = Sample.marked(x, 1, 3);
+        int ofBig = Sample.marked(x, 0, 4);
+        int ofLarge = Sample.marked(x, 0, 5);
+        int ofLast = Sample.marked(x, 0, 6);
         x.set(big, 0, ofBig);
         x.set(large, 0, ofLarge);
         x.set(last, 0, ofLast);
@@ -382,12 +369,12 @@ public final class PromisesTest {
         x.root(1, large);
         x.root(2, last);
         Check.due("11: six", 6, () -> x.collect());
-        Check.same("11: by the order of copying", marks(x), "2:1 2:3 2:4 2:5 3:2 3:6 ");
+        Check.same("11: by the order of copying", Sample.marks(x), "2:1 2:3 2:4 2:5 3:2 3:6 ");
     }
 
     private static void collectByAge() {
         NurseryRow x = new NurseryRow();
-        marked(x, 0, 1);
+        Sample.marked(x, 0, 1);
         x.root(4, 1);
         x.collect();
         x.collect();
@@ -400,7 +387,7 @@ public final class PromisesTest {
         Check.due("11: what is old stays", 0, () -> x.collect());
         Check.due("11: where it is", 385, () -> x.rooted(4));
         x.limit(0);
-        marked(x, 0, 2);
+        Sample.marked(x, 0, 2);
         x.root(5, 1);
         x.collect();
         Check.due("11: behind the last one there", 389, () -> x.rooted(5));
@@ -410,7 +397,7 @@ public final class PromisesTest {
     private static void collectByRoom() {
         NurseryRow x = new NurseryRow();
         x.space(64, 10, 64);
-        marked(x, 0, 1);
+        Sample.marked(x, 0, 1);
         x.make(0, 4);
         x.make(0, 3);
         x.make(0, 0);
@@ -436,12 +423,12 @@ public final class PromisesTest {
     private static void collectFromOld() {
         NurseryRow x = new NurseryRow();
         x.limit(0);
-        marked(x, 1, 1);
+        Sample.marked(x, 1, 1);
         x.root(0, 1);
         x.collect();
         x.limit(3);
         x.root(0, 0);
-        marked(x, 0, 2);
+        Sample.marked(x, 0, 2);
         x.set(385, 0, 1);
         Check.due("11: told by OLD alone", 1, () -> x.collect());
         Check.due("11: its copy is told", 257, () -> x.get(385, 0));
