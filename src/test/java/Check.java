@@ -31,6 +31,12 @@ final class Check {
         same(what, outcome(call), Integer.toString(want));
     }
 
+    /** Any answer will do, but an answer it must be. */
+    static void answers(String what, Call call) {
+        String got = outcome(call);
+        same(what, got, got.contains("Exception") ? "any number" : got);
+    }
+
     static void missing(String what, Call call) {
         same(what, outcome(call), NoSuchElementException.class.getName());
     }

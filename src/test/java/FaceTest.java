@@ -26,7 +26,31 @@ public final class FaceTest {
         Check.same("face: constructors", constructors(), "public NurseryRow() ");
         int modifiers = NurseryRow.class.getModifiers();
         Check.same("face: class", Modifier.toString(modifiers), "public final");
+        Check.same("face: private methods with a public one's name", sharedNames().toString(), "[]");
+        Check.same("face: classes inside", shownClasses().toString(), "[]");
         Check.end();
+    }
+
+    private static Set<String> sharedNames() {
+        Set<String> open = new TreeSet<>();
+        Set<String> hidden = new TreeSet<>();
+        for (Method method : NurseryRow.class.getDeclaredMethods()) {
+            (Modifier.isPublic(method.getModifiers()) ? open : hidden).add(method.getName());
+        }
+        hidden.retainAll(open);
+        return hidden;
+    }
+
+    /** Classes inside that are public, protected or not static. */
+    private static Set<String> shownClasses() {
+        Set<String> shown = new TreeSet<>();
+        for (Class<?> inside : NurseryRow.class.getDeclaredClasses()) {
+            int modifiers = inside.getModifiers();
+            if (Modifier.isPublic(modifiers) || Modifier.isProtected(modifiers) || !Modifier.isStatic(modifiers)) {
+                shown.add(inside.getSimpleName());
+            }
+        }
+        return shown;
     }
 
     private static Set<String> shownMethods() {
@@ -40,12 +64,21 @@ public final class FaceTest {
             for (Class<?> type : method.getExceptionTypes()) {
                 text.append(' ').append(type.getName());
             }
-            if (!Modifier.toString(method.getModifiers()).equals("public") || method.getReturnType() != int.class) {
+            if (!Modifier.toString(method.getModifiers()).equals("public") || !isOfInts(method)) {
                 text.append(" of another kind");
             }
             shown.add(text.toString());
         }
         return shown;
+    }
+
+    private static boolean isOfInts(Method method) {
+        for (Class<?> type : method.getParameterTypes()) {
+            if (type != int.class) {
+                return false;
+            }
+        }
+        return method.getReturnType() == int.class;
     }
 
     private static Set<String> shownFields() {

@@ -1,6 +1,7 @@
-/** Long runs of drawn calls, wild ones among them, each answer compared with the model's. */
+/** Runs of drawn calls, wild ones among them, then the whole state: each answer compared with the model's. */
 public final class ModelTest {
-    private static final int RUNS = 1500;
+    private static final int RUNS = 6000;
+    /** What an object answers behind these is free, so nothing is asked then. */
     private static final int CALLS = 512;
     private static final int[] WILD = {
         0, -1, 1, 2, 3, 4, 15, 16, 63, 64, 200, 201, 257, 321, 385, 1024, 1025, 8192, 8193, 10240, 10241,
@@ -10,6 +11,7 @@ public final class ModelTest {
     private final Model model = new Model();
     private final int run;
     private long seed;
+    private int calls;
 
     private ModelTest(int run) {
         this.run = run;
@@ -59,6 +61,10 @@ public final class ModelTest {
     }
 
     private void both(String call, Check.Call ours, Check.Call theirs) {
+        if (calls == CALLS) {
+            return;
+        }
+        calls++;
         Check.same("run " + run + ": " + call, Check.outcome(ours), Check.outcome(theirs));
     }
 
@@ -69,11 +75,10 @@ public final class ModelTest {
         if (run % 3 == 0) {
             limit(draw(16));
         }
-        for (int i = 0; i < CALLS && !Check.anyWrong(); i++) {
+        // Runs of each length, as the state that one ends in is looked at where it still answers.
+        int steps = run % CALLS;
+        for (int i = 0; i < steps && !Check.anyWrong(); i++) {
             step(draw(100));
-            if (i % 64 == 0) {
-                wholeState();
-            }
         }
         wholeState();
     }

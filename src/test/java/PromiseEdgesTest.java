@@ -312,7 +312,6 @@ public final class PromiseEdgesTest {
 
     /* 3: IllegalArgumentException: n is not 0 .. 15. */
     private static void limitRefuses() {
-        NurseryRow x = Sample.small();
         int[] wrong = {LOWEST, -1, 16, 256, HIGHEST};
         for (int n : wrong) {
             Check.keptWhenRefused("3: limit " + n, small -> small.limit(n));
@@ -410,7 +409,6 @@ public final class PromiseEdgesTest {
 
     /* 5: NoSuchElementException: a, field, or b (that can be 0). */
     private static void setWrong() {
-        NurseryRow x = Sample.small();
         Check.keptWhenMissing("5: a", small -> small.set(2, 0, 37));
         Check.keptWhenMissing("5: a is 0", small -> small.set(0, 0, 37));
         Check.keptWhenMissing("5: b", small -> small.set(37, 0, 2));
@@ -466,7 +464,6 @@ public final class PromiseEdgesTest {
 
     /* 7: NoSuchElementException. */
     private static void putWrong() {
-        NurseryRow x = Sample.small();
         int[] wrong = {LOWEST, -1, 1, 2, HIGHEST};
         for (int k : wrong) {
             Check.keptWhenMissing("7: word " + k, small -> small.put(17, k, 99));
@@ -515,7 +512,6 @@ public final class PromiseEdgesTest {
 
     /* 9: NoSuchElementException: root, or a (that can be 0). */
     private static void rootWrong() {
-        NurseryRow x = Sample.small();
         int[] wrong = {LOWEST, -1, 16, 17, HIGHEST};
         for (int root : wrong) {
             Check.keptWhenMissing("9: root " + root, small -> small.root(root, 1));
@@ -643,7 +639,6 @@ public final class PromiseEdgesTest {
 
     /* 12: IllegalArgumentException: none of these. */
     private static void aboutRefuses() {
-        NurseryRow x = Sample.small();
         int[] wrong = {LOWEST, -1, 4, 5, HIGHEST};
         for (int what : wrong) {
             Check.keptWhenRefused("12: what " + what, small -> small.about(37, what));
@@ -654,7 +649,6 @@ public final class PromiseEdgesTest {
 
     /* EXCEPTIONS: NoSuchElementException ... IllegalArgumentException, then IllegalStateException */
     private static void aboutWrongInBoth() {
-        NurseryRow x = Sample.small();
         Check.keptWhenMissing("12: both are wrong", small -> small.about(2, 4));
         Check.keptWhenMissing("12: both are wrong, a is 0", small -> small.about(0, -1));
         Check.keptWhenMissing("12: a alone is wrong", small -> small.about(2, 3));
@@ -711,7 +705,6 @@ public final class PromiseEdgesTest {
 
     /* 13: NoSuchElementException: a (that can be 0). */
     private static void nextWrong() {
-        NurseryRow x = Sample.small();
         int[] wrong = {LOWEST, -1, 2, 10, 16, 18, 27, 42, 100, 101, HIGHEST};
         for (int a : wrong) {
             Check.keptWhenMissing("13: " + a, small -> small.next(a));
@@ -773,7 +766,6 @@ public final class PromiseEdgesTest {
 
     /* 14: IllegalArgumentException: none of these. */
     private static void countRefuses() {
-        NurseryRow x = Sample.small();
         int[] wrong = {LOWEST, -1, 10, 11, HIGHEST};
         for (int what : wrong) {
             Check.keptWhenRefused("14: " + what, small -> small.count(what));

@@ -29,6 +29,7 @@ public final class PromisesTest {
         collectCycles();
         collectRefused();
         collectMany();
+        collectLongChain();
         collectMostThatCanBeYoung();
         about();
         next();
@@ -495,38 +496,65 @@ public final class PromisesTest {
         x.limit(was);
     }
 
-    private static void fill(NurseryRow x, int root, int from, int to) {
+    private static void fill(NurseryRow x, int holder, int from, int to) {
         for (int i = from; i < to; i++) {
-            x.set(x.rooted(root), i, x.make(0, 0));
+            x.set(holder, i, x.make(0, 0));
         }
     }
 
+    /** Nearly as many as 512 calls can make and have told. */
     private static void collectMany() {
         NurseryRow x = new NurseryRow();
         x.space(1024, 512, 8192);
-        oldHolders(x, 160);
-        fill(x, 0, 0, 160);
-        Check.due("11: many", 160, () -> x.collect());
-        Check.due("11: all in a row", 160, () -> x.count(1));
-        Check.due("11: the last one", 1025 + 3 * 159, () -> x.get(x.rooted(0), 159));
+        oldHolders(x, 200, 40);
+        int holder = x.rooted(0);
+        int other = x.rooted(1);
+        fill(x, holder, 0, 200);
+        fill(x, other, 0, 40);
+        Check.due("11: many", 240, () -> x.collect());
+        Check.due("11: in the row", 170, () -> x.count(1));
+        Check.due("11: in OLD, the two that tell them too", 2 + 70, () -> x.count(2));
+        Check.due("11: the last one in the row", 1025 + 3 * 169, () -> x.get(holder, 169));
+        Check.due("11: the first one in OLD", 2049 + 203 + 43, () -> x.get(holder, 170));
+        Check.due("11: the last one in OLD", 2049 + 203 + 43 + 3 * 69, () -> x.get(other, 39));
         x.limit(0);
-        Check.due("11: and on", 160, () -> x.collect());
-        Check.due("11: all in OLD", 161, () -> x.count(2));
+        Check.due("11: and on", 170, () -> x.collect());
+        Check.due("11: all in OLD", 242, () -> x.count(2));
     }
 
-    /** More calls than are promised: the answers are free, yet the machine must not throw. */
+    /** Each one is told by the one before it alone, so each copy leads to one copy more. */
+    private static void collectLongChain() {
+        NurseryRow x = new NurseryRow();
+        x.space(1024, 512, 8192);
+        x.root(0, x.make(1, 0));
+        for (int a = 1; a < 997; a += 4) {
+            x.set(a, 0, x.make(1, 0));
+        }
+        Check.due("11: a chain", 250, () -> x.collect());
+        Check.due("11: in the row", 128, () -> x.count(1));
+        Check.due("11: in OLD", 122, () -> x.count(2));
+        Check.due("11: from the row to OLD", 2049, () -> x.get(1537 + 4 * 127, 0));
+        Check.due("11: the one before the last", 2049 + 4 * 121, () -> x.get(2049 + 4 * 120, 0));
+        Check.due("11: the last", 0, () -> x.get(2049 + 4 * 121, 0));
+    }
+
+    /** More calls than the document answers for: what they answer is free, yet the machine must not throw. */
     private static void collectMostThatCanBeYoung() {
         NurseryRow x = new NurseryRow();
         x.space(1024, 512, 8192);
         oldHolders(x, 200, 200);
-        oldHolders(x, 200, 200, 200);
-        fill(x, 0, 0, 170);
-        Check.due("11: fills a row", 170, () -> x.collect());
-        fill(x, 0, 170, 200);
-        fill(x, 1, 0, 200);
-        fill(x, 2, 0, 111);
-        Check.due("11: no room is left", 0, () -> x.make(0, 0));
-        Check.due("11: all that can be", 511, () -> x.collect());
+        oldHolders(x, 200);
+        int first = x.next(0);
+        int second = x.next(first);
+        int third = x.next(second);
+        fill(x, first, 0, 170);
+        x.collect();
+        fill(x, first, 170, 200);
+        fill(x, second, 0, 200);
+        fill(x, third, 0, 111);
+        Check.answers("11: make when all cells are taken", () -> x.make(0, 0));
+        Check.answers("11: collect when all are young that can be", () -> x.collect());
+        Check.answers("11: and again", () -> x.collect());
     }
 
     private static void about() {
